@@ -332,7 +332,7 @@ public final class Perforatum {
 
   public long checksum() {
     long sum = 7;
-    for (int i = 0; i < paperCount; i++) {
+    for (int i = 0; i < paperCount && i < MOST_ROLLS; i++) {
       sum = papers[i].addToSum(sum);
     }
     return log.addToSum(sum);
@@ -364,8 +364,12 @@ public final class Perforatum {
     }
   }
 
+  private boolean hasPaper(int number) {
+    return number >= 0 && number < paperCount && number < MOST_ROLLS;
+  }
+
   private Paper demandPaper(int number) {
-    if (number < 0 || number >= paperCount || number >= papers.length) {
+    if (!hasPaper(number)) {
       throw new IndexOutOfBoundsException("no such roll");
     }
     return papers[number];
@@ -402,10 +406,7 @@ public final class Perforatum {
   }
 
   private boolean isArrangementKept() {
-    if (arrangedRoll < 0 || arrangedRoll >= paperCount) {
-      return true;
-    }
-    return music.isScannedFrom(papers[arrangedRoll]);
+    return !hasPaper(arrangedRoll) || music.isScannedFrom(papers[arrangedRoll]);
   }
 
   private boolean isLentToAnother(int number) {
@@ -942,10 +943,11 @@ public final class Perforatum {
       for (int i = 0; i < PITCHES; i++) {
         Valve valve = valves[i];
         moveValve(valve, isRead(fed, i));
-        if (valve.rings && !isPedalDown) {
+        boolean isAnew = valve.isReady(nextRow) && vacuum >= settings.least;
+        if (valve.rings && (isAnew || !isPedalDown)) {
           endHearing(valve);
         }
-        if (valve.isReady(nextRow) && vacuum >= settings.least) {
+        if (isAnew) {
           beginSounding(i, valve);
         }
       }
@@ -982,7 +984,6 @@ public final class Perforatum {
     }
 
     private void beginSounding(int number, Valve valve) {
-      endHearing(valve);
       int loud = vacuum * (strength + 1) / LOUDNESS_DIVISOR;
       valve.speaks = true;
       valve.kept = log.keep(number, valve.opening, nextRow, loud);

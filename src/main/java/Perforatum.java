@@ -867,13 +867,20 @@ public final class Perforatum {
 
     /** Plays as many rows, fewer if the roll ends; how many it played. */
     int playRows(int rows) {
-      for (int played = 0; played < rows; played++) {
-        if (paper == null) {
-          return played;
-        }
-        playRow(paper);
+      Paper loaded = paper;
+      if (loaded == null) {
+        return 0;
       }
-      return rows;
+      int played = 0;
+      // Looked at ahead of each row: the roll may have been mended shorter than its next row.
+      while (played < rows && loaded.hasHolesFrom(nextRow)) {
+        playRow(loaded);
+        played++;
+      }
+      if (!loaded.hasHolesFrom(nextRow)) {
+        endPlaying();
+      }
+      return played;
     }
 
     private void playRow(Paper played) {
@@ -884,10 +891,6 @@ public final class Perforatum {
       moveSuction();
       readAhead = read;
       nextRow++;
-      // The roll may have been mended shorter meanwhile: then this row was its end all the same.
-      if (!played.hasHolesFrom(nextRow)) {
-        endPlaying();
-      }
     }
 
     private int readHoles(Paper played) {

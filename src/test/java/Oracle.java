@@ -301,17 +301,17 @@ final class Oracle {
   int tick(int rows) {
     playing();
     range(rows, 1, 100);
-    int count = 0;
-    while (count < rows && played != null) {
+    int end = lengthOf(played);
+    int count = Math.max(0, Math.min(rows, end - row));
+    for (int i = 0; i < count; i++) {
       playOne();
-      count++;
       row++;
-      if (row >= lengthOf(played)) {
-        for (int n = 0; n < 12; n++) {
-          silence(n);
-        }
-        played = null;
+    }
+    if (row >= end) {
+      for (int n = 0; n < 12; n++) {
+        silence(n);
       }
+      played = null;
     }
     return count;
   }

@@ -9,7 +9,11 @@ public final class PlayingTest {
     tickPlaysUpToTheEnd();
     tickRefuses();
     punchingHoldsFromTheNextRow();
-    mendedRollEndsBehindTheNextRow();
+    mendedRollPlaysNoRowBehindItsEnd();
+    mendedToNothingPlaysNoRow();
+    mendedAtTheNextRowStillPlaysUpToIt();
+    mendedAndPunchedAnewGoesOn();
+    arrangedShorterPlaysNoRowBehindItsEnd();
     makerALatches();
     makerBCountsBeginnings();
     makerBRemembersWhatWasRead();
@@ -198,16 +202,92 @@ public final class PlayingTest {
     dueSounding(x, 1, 8, 2, 2, 3);
   }
 
-  private static void mendedRollEndsBehindTheNextRow() {
+  private static void mendedRollPlaysNoRowBehindItsEnd() {
     Perforatum x = withHoles(5, 0, 3);
-    x.punch(0, 9, 5, true);
+    punchAll(x, 5, 5, 9);
+    x.punch(0, 5, 12, true);
     x.load(0);
     x.tick(6);
-    x.punch(0, 9, 5, false);
+    for (int row = 4; row < 10; row++) {
+      x.punch(0, row, 5, false);
+    }
+    x.punch(0, 5, 12, false);
+    Check.is("shorter than its next row", x.length(0), 4);
     Check.is("still playing", x.isPlaying(), true);
     Check.is("row", x.row(), 6);
-    Check.is("one more row", x.tick(5), 1);
+    Check.is("still heard", x.isHeard(5), true);
+    Check.is("still open", x.isOpen(5), true);
+    int suction = x.suction();
+    Check.refuses("tick 0", Check.ARGUMENT, () -> x.tick(0));
+    Check.refuses("tick 101", Check.ARGUMENT, () -> x.tick(101));
+    Check.is("nothing ended yet", x.sounding(0, 'l'), -1);
+    Check.is("nor moved", x.suction(), suction);
+    Check.is("no row left", x.tick(5), 0);
     Check.is("ended", x.isPlaying(), false);
+    Check.refuses("tick behind the end", Check.STATE, () -> x.tick(1));
+    Check.is("one sounding", x.soundings(), 1);
+    dueSounding(x, 0, 5, 0, 0, 5);
+    Check.is("sound", x.isSound(), true);
+  }
+
+  private static void mendedToNothingPlaysNoRow() {
+    Perforatum x = withHoles(0, 0, 0);
+    x.load(0);
+    x.punch(0, 0, 0, false);
+    Check.is("row 0", x.row(), 0);
+    Check.is("suction of row 0", x.suction(), 1000);
+    Check.is("level of row 0", x.level(), 3);
+    Check.is("nothing to play", x.tick(1), 0);
+    Check.is("nothing is played", x.isPlaying(), false);
+    Check.refuses("no row", Check.STATE, x::row);
+    Check.is("no sounding", x.soundings(), 0);
+    Check.refuses("no opening", Check.ARITHMETIC, x::heardShare);
+    x.punch(0, 0, 0, true);
+    Check.is("punched behind its end", x.isPlaying(), false);
+    Check.is("loaded anew", x.load(0), 1);
+    Check.is("played anew", x.tick(100), 1);
+  }
+
+  private static void mendedAtTheNextRowStillPlaysUpToIt() {
+    Perforatum x = withHoles(5, 0, 9);
+    x.load(0);
+    x.tick(4);
+    for (int row = 5; row < 10; row++) {
+      x.punch(0, row, 5, false);
+    }
+    Check.is("the next row is the last one", x.tick(100), 1);
+    Check.is("it ended there", x.isPlaying(), false);
+    dueSounding(x, 0, 5, 0, 0, 4);
+    Perforatum y = withHoles(5, 0, 4);
+    y.load(0);
+    y.tick(4);
+    y.punch(0, 4, 5, false);
+    Check.is("the last row is the one played", y.tick(100), 0);
+    Check.is("it ends behind it", y.isPlaying(), false);
+    dueSounding(y, 0, 5, 0, 0, 3);
+  }
+
+  private static void mendedAndPunchedAnewGoesOn() {
+    Perforatum x = withHoles(5, 0, 2);
+    x.load(0);
+    x.tick(2);
+    x.punch(0, 2, 5, false);
+    x.punch(0, 6, 5, true);
+    Check.is("no end was reached", x.tick(100), 5);
+    dueSounding(x, 0, 5, 0, 0, 2);
+    dueSounding(x, 1, 5, 6, 6, 6);
+  }
+
+  private static void arrangedShorterPlaysNoRowBehindItsEnd() {
+    Perforatum x = withHoles(5, 0, 9);
+    x.note(1, 2, 5);
+    x.load(0);
+    x.tick(3);
+    x.arrange(0, false);
+    Check.is("row 3 of a roll of 3", x.row(), x.length(0));
+    Check.is("no row of it is left", x.tick(1), 0);
+    Check.is("so it ended", x.isPlaying(), false);
+    dueSounding(x, 0, 5, 0, 0, 2);
   }
 
   private static void makerALatches() {
